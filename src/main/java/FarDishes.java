@@ -1089,10 +1089,6 @@ public final class FarDishes {
         final int[] next = new int[STATES];
         int heard;
 
-        Silence() {
-            begin();
-        }
-
         void begin() {
             heard = 0;
             for (int s = 0; s < STATES; s++) {
@@ -1480,7 +1476,7 @@ public final class FarDishes {
         private final int[] starts = new int[LOOKED_AT];
         private final int[] bestRow = new int[LOOKED_AT];
         private final int[] bestStarts = new int[LOOKED_AT];
-        /** By places: what all from there on weigh, and how many of them weigh anything. */
+        /** By places: what those from there on that can stand weigh, and how many of them weigh anything. */
         private final int[] restWeight = new int[LOOKED_AT + 1];
         private final int[] restHeavy = new int[LOOKED_AT + 1];
         /** By dishes: the end of the last track there, -1 if there is none. */
@@ -1526,16 +1522,31 @@ public final class FarDishes {
         }
 
         private void solve(World w) {
-            restWeight[size] = 0;
-            restHeavy[size] = 0;
-            for (int i = size - 1; i >= 0; i--) {
-                restWeight[i] = restWeight[i + 1] + weights[i];
-                restHeavy[i] = restHeavy[i + 1] + (weights[i] > 0 ? 1 : 0);
-            }
             findEnds(w);
+            findRest(w);
             bestWeight = -1;
             bestUsed = 0;
             tryFrom(w, 0, 0, 0);
+        }
+
+        private void findRest(World w) {
+            restWeight[size] = 0;
+            restHeavy[size] = 0;
+            for (int i = size - 1; i >= 0; i--) {
+                boolean heavy = weights[i] > 0 && canStand(w, i);
+                restWeight[i] = restWeight[i + 1] + (heavy ? weights[i] : 0);
+                restHeavy[i] = restHeavy[i + 1] + (heavy ? 1 : 0);
+            }
+        }
+
+        /** Others ahead of it would only put it off: what can't stand behind none of them never can. */
+        private boolean canStand(World w, int i) {
+            for (int d = 0; d < w.dishCount; d++) {
+                if (startOn(w, i, d) >= 0) {
+                    return true;
+                }
+            }
+            return false;
         }
 
         private void findEnds(World w) {
@@ -1544,7 +1555,7 @@ public final class FarDishes {
             }
             for (int i = 0; i < w.askingCount; i++) {
                 Asking a = w.askings[i];
-                if (a.state == PLANNED || a.state == RUNS) {
+                if ((a.state == PLANNED || a.state == RUNS) && a.dish >= 0) {
                     ends[a.dish] = Math.max(ends[a.dish], a.end());
                 }
             }
@@ -1575,7 +1586,7 @@ public final class FarDishes {
             tryFrom(w, i + 1, weight, used);
         }
 
-        /** The most weight still to be had needs all that weigh anything. */
+        /** The most weight that can still be had needs all of the rest that weigh anything. */
         private boolean canBeBetter(int i, int weight, int used) {
             int most = weight + restWeight[i];
             return most > bestWeight || most == bestWeight && used + restHeavy[i] < bestUsed;

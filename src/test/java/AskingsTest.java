@@ -89,6 +89,12 @@ public final class AskingsTest {
         fault("   ", 3);
         fault("tracks c0 n1 from 0 to 1", 0);
         fault("trac c0 n1 from 0 to 1", 0);
+        fault("trackz c0 n1 from 0 to 1", 0);
+        fault("atrack c0 n1 from 0 to 1", 0);
+        fault("track{c0 n1 from 0 to 1", 5);
+        fault("track`c0 n1 from 0 to 1", 5);
+        fault("track c0:n1 from 0 to 1", 8);
+        fault("track c0/n1 from 0 to 1", 8);
         fault("trackc0 n1 from 0 to 1", 0);
         fault("c c0 n1 from 0 to 1", 0);
         fault("worth c0", 0);
@@ -104,6 +110,12 @@ public final class AskingsTest {
         fault("track c0 n0 from 0 to 1", 10);
         fault("track c0 n10 from 0 to 20", 10);
         fault("track c0 1", 9);
+        fault("track c0 n1", 11);
+        fault("track c0 n1 from", 16);
+        fault("track c0 n1 from;", 16);
+        fault("track c0 n1 from 0", 18);
+        fault("track c0 n1 from 0 to", 21);
+        fault("track c0 n1 from 0 to ;", 22);
         fault("track c00000 n1 from 0 to 1", 7);
         fault("track c0 n1 from 12345 to 9", 17);
         fault("track c0 n1 from0 to 0", 21);
@@ -207,7 +219,8 @@ public final class AskingsTest {
         T.due("worth -1", x.worth(0, -1), Due.BEYOND);
         T.due("asking 1", x.worth(1, 1), Due.BEYOND);
         T.due("worth", x.worth(0, 999), 5);
-        T.due("was", x.worth(0, 4), 999);
+        T.due("was", x.worth(0, 0), 999);
+        T.due("was 0", x.worth(0, 4), 0);
         x.hold();
         T.due("planned", x.worth(0, 6), Due.STATE);
         T.due("beyond ahead of state", x.worth(0, 1000), Due.BEYOND);

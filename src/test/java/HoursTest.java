@@ -229,6 +229,16 @@ public final class HoursTest {
         T.due("two are dropped", x.craftIs(0, 8), 2);
         T.due("0 and 1 went, sent the longest", x.block(0, 0, 0), 2);
         T.due("none is lost", x.craftIs(0, 9), 0);
+        x = new FarDishes();
+        x.dish(0, 6, 0);
+        x.craft(4, 0, 41);
+        x.rises(0, 0, 0, 24);
+        x.run(72);
+        Due.asks(x, "hear c0n1from72to73");
+        x.hold();
+        x.run(48);
+        T.due("of like ones the least", x.block(0, 0, 0), 1);
+        T.due("one of three was dropped", x.craftIs(0, 8), 1);
     }
 
     private static void block() {
@@ -323,5 +333,27 @@ public final class HoursTest {
         x.mend(0, true);
         x.write(1, 0, 0);
         T.due("a broken dish", x.check(1), 1);
+        x = new FarDishes();
+        x.dish(0, 1, 0);
+        x.dish(2, 4, 0);
+        x.craft(4, 1, 31);
+        x.rises(0, 2, 0, 24);
+        x.rain(2, 1, 1);
+        x.run(20);
+        Due.asks(x, "hear c0n9from22to31");
+        x.hold();
+        x.sheet(2, 16, 11);
+        int[] later = {0, 0, 0, 0, 1, 0, 1, 0, 1, 0, 1};
+        for (int i = 0; i < later.length; i++) {
+            x.write(2, i, later[i]);
+        }
+        T.due("blocks that will be made, rain at its place, again after 2 hours", x.check(2), 11);
+        x.rain(2, 1, 9);
+        T.due("too much rain", x.check(2), 4);
+        Due.asks(x, "track c0n1from31to32;send c0n1from32to33");
+        x.hold();
+        x.run(11);
+        x.sheet(3, 8, 3);
+        T.due("track and send hear nothing", x.check(3), 3);
     }
 }

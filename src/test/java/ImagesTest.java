@@ -7,6 +7,7 @@ public final class ImagesTest {
         image();
         whatIsKept();
         whatIsNotKept();
+        sendingIsKept();
         rowsAreNew();
         count();
         status();
@@ -50,6 +51,7 @@ public final class ImagesTest {
         x.dish(0, 2, 0);
         x.craft(4, 0, 33);
         x.rises(0, 0, 0, 24);
+        x.rises(0, 1, 3, 4);
         x.rain(0, 0, 1);
         x.table(0, 0, 1, false);
         x.table(0, 1, 1, true);
@@ -65,6 +67,8 @@ public final class ImagesTest {
         x.dish(0, 1, 1);
         x.craft(1, 1, 11);
         x.rises(0, 0, 5, 1);
+        x.rises(0, 1, 9, 4);
+        x.rises(0, 1, 8, 7);
         x.rain(0, 0, 7);
         x.table(0, 0, 0, true);
         x.seek();
@@ -87,6 +91,7 @@ public final class ImagesTest {
         }
         T.due("whole", x.dishIs(0, 3), 0);
         T.due("up", x.up(0, 0, 3), 1);
+        T.due("up from 3", x.rise(0, 1, 0, 4), 3);
         T.due("rain", x.rain(0, 0, 1), 1);
         T.due("silence", x.silence(0, 0), 1);
         T.due("odds", x.seek(), 5);
@@ -117,16 +122,55 @@ public final class ImagesTest {
         T.due("nor status", x.status(-1), 1);
     }
 
+    private static void sendingIsKept() {
+        FarDishes x = new FarDishes();
+        x.dish(0, 2, 0);
+        x.craft(4, 0, 21);
+        x.rises(0, 0, 0, 24);
+        Due.asks(x, "both c0n1from23to24worth4;hear c0n1from47to48worth4");
+        x.hold();
+        x.run(23);
+        x.order(0, 60);
+        x.image();
+        x.run(1);
+        T.due("the order is done", x.orderIs(0, 0, 3), 1);
+        x.run(72);
+        T.due("one was dropped", x.craftIs(0, 8), 1);
+        T.due("one was lost", x.craftIs(0, 9), 1);
+        x.undo();
+        T.due("it waits", x.orderIs(0, 0, 3), 0);
+        T.due("it wasn't done", x.orderIs(0, 0, 4), -1);
+        T.due("none was dropped", x.craftIs(0, 8), 0);
+        T.due("none was lost", x.craftIs(0, 9), 0);
+        x.mend(0, true);
+        x.run(5);
+        T.due("it didn't go this time", x.orderIs(0, 0, 3), 0);
+        x.order(0, 60);
+        x.undo();
+        T.due("one order", x.craftIs(0, 10), 1);
+    }
+
     private static void rowsAreNew() {
         FarDishes x = new FarDishes();
         x.image();
-        x.dish(1, 5, 2);
-        x.mend(0, true);
-        x.craft(9, 9, 126);
-        x.rises(0, 1, 3, 9);
+        x.dish(1, 2, 2);
+        x.craft(4, 0, 21);
+        x.rises(0, 1, 0, 24);
+        x.rises(0, 0, 0, 24);
         x.table(0, 0, 5, true);
-        x.order(0, 9);
-        x.run(48);
+        Due.asks(x, "both c0n1from24to25worth4");
+        x.hold();
+        x.run(24);
+        x.order(0, 90);
+        x.run(1);
+        x.run(100);
+        T.due("dropped", x.craftIs(0, 8), 1);
+        T.due("lost", x.craftIs(0, 9), 2);
+        Due.asks(x, "hear c0n1from125to126");
+        x.hold();
+        x.run(1);
+        T.due("had", x.name(0, 99), 1);
+        x.mend(0, true);
         x.undo();
         x.dish(0, 1, 0);
         T.due("a dish made after undo is whole", x.dishIs(0, 3), 0);
@@ -136,8 +180,16 @@ public final class ImagesTest {
             T.due("a craft made after undo, " + what, x.craftIs(0, what), craft[what]);
         }
         T.due("isn't up", x.rises(0, 1, 0, 0), 0);
-        T.due("has a table of its own", x.table(0, 0, 0, false), 0);
+        T.due("nor elsewhere", x.rises(0, 0, 0, 0), 0);
         T.due("none is heard", x.ever(0), 255);
+        T.due("has a table of its own", x.table(0, 0, 0, false), 0);
+        x.order(0, 9);
+        int[] order = {0, -1, 9, 0, -1};
+        for (int what = 0; what < order.length; what++) {
+            T.due("an order made after undo, " + what, x.orderIs(0, 0, what), order[what]);
+        }
+        x.run(5);
+        T.due("it waits", x.orderIs(0, 0, 3), 0);
         Due.asks(x, "track c0n1from0to1");
         T.due("an asking made after undo", x.asking(0, 7), -1);
     }

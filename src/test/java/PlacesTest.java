@@ -164,7 +164,10 @@ public final class PlacesTest {
         T.due("at 4000, elsewhere", x.up(0, 1, 4000), 1);
         T.due("4001", x.up(0, 0, 4001), Due.BEYOND);
         T.due("-1", x.up(0, 0, -1), Due.BEYOND);
+        x.rises(0, 2, 0, 1);
+        T.due("at place 2", x.up(0, 2, 0), 1);
         T.due("place", x.up(0, 3, 0), Due.BEYOND);
+        T.due("place -1", x.up(0, -1, 0), Due.BEYOND);
         T.due("craft", x.up(1, 0, 0), Due.BEYOND);
     }
 
@@ -188,7 +191,10 @@ public final class PlacesTest {
         T.due("n 10", x.rise(0, 0, 0, 10), Due.BEYOND);
         T.due("4001", x.rise(0, 0, 4001, 1), Due.BEYOND);
         T.due("-1", x.rise(0, 0, -1, 1), Due.BEYOND);
+        x.rises(0, 2, 8, 2);
+        T.due("at place 2", x.rise(0, 2, 0, 2), 8);
         T.due("place -1", x.rise(0, -1, 0, 1), Due.BEYOND);
+        T.due("place 3", x.rise(0, 3, 0, 1), Due.BEYOND);
         T.due("craft 1", x.rise(1, 0, 0, 1), Due.BEYOND);
     }
 
@@ -200,6 +206,7 @@ public final class PlacesTest {
         x.dish(0, 2, 0);
         x.rain(1, 2, 9);
         T.due("dry", x.link(0, 0, 47), 21);
+        T.due("in hour 0", x.link(0, 0, 0), 21);
         T.due("rain", x.link(0, 0, 48), 12);
         T.due("rain till midnight", x.link(0, 0, 71), 12);
         T.due("dry again", x.link(0, 0, 72), 21);

@@ -64,6 +64,10 @@ public final class PlansTest {
         T.due("fewest, too", x.plan(1), -1);
         T.due("one alone", x.plan(2), 0);
         x = withDish(0);
+        Due.asks(x, "track c0n4from0to9worth2;track c0n5from0to9worth2;track c0n9from0to9worth4;track c0n1from0to9worth0");
+        T.due("fewest, with one that weighs nothing", x.plan(0), -1);
+        T.due("one alone, with one that weighs nothing", x.plan(2), 0);
+        x = withDish(0);
         x.dish(0, 1, 0);
         Due.asks(x, "track c0n2from0to9worth2;track c0n2from0to9worth2");
         T.due("both on the first dish", x.plan(0), 0);
@@ -108,6 +112,14 @@ public final class PlansTest {
         T.due("planned ones have none in the plan", x.begins(0), Due.NONE);
         Due.asks(x, "track c0n2from0to20");
         T.due("behind those that are planned", x.begins(2), 18);
+        x.drop(1);
+        x.worth(1, 0);
+        T.due("behind the one that is planned", x.begins(2), 14);
+        x.worth(1, 2);
+        x.drop(0);
+        x.hold();
+        T.due("held again", x.count(5), 3);
+        x.drop(2);
         x.run(6);
         T.due("behind one that runs", x.begins(2), 18);
         x.run(1);
@@ -153,6 +165,9 @@ public final class PlansTest {
         x = withDish(0);
         Due.asks(x, "track c0n9from0to9worth3;track c0n3from0to9worth2;track c0n3from0to9worth2;track c0n3from0to9worth2");
         T.due("three are in", x.plan(-1), 6);
+        x.worth(0, 7);
+        T.due("0 is taken out by another", x.takes(1, 8), 1);
+        x.worth(0, 3);
         T.due("takes three", x.takes(0, 7), 14);
         T.due("takes three by fewest", x.takes(0, 6), 14);
     }
@@ -175,10 +190,12 @@ public final class PlansTest {
         T.due("the other is", x.bars(3, 1), Due.STATE);
         T.due("beyond ahead of state", x.bars(1, 1), Due.BEYOND);
         x = withDish(0);
-        Due.asks(x, "track c0n1from0to99;track c0n1from0to99;track c0n1from0to99;track c0n1from0to99");
+        Due.asks(x, "track c0n1from0to1;track c0n1from0to99;track c0n1from0to99;track c0n1from0to99");
         Due.asks(x, "track c0n1from0to99;track c0n9from0to9;track c0n9from0to9");
         T.due("also those that aren't looked at", x.bars(6, 5), 1);
         T.due("with one that is", x.bars(6, 0), 1);
+        x.worth(0, 9);
+        T.due("whatever else waits", x.bars(5, 6), 1);
         T.due("those that are", x.bars(0, 1), 0);
     }
 
@@ -209,6 +226,10 @@ public final class PlansTest {
         T.due("not up there", x.judge(0), -1);
         x.write(0, 2, 3);
         T.due("no dish", x.judge(0), Due.BEYOND);
+        x.write(0, 2, 0);
+        x.write(0, 0, 3);
+        T.due("no dish at first", x.judge(0), Due.BEYOND);
+        x.write(0, 0, -1);
         x.write(0, 2, -2);
         T.due("no dish, too", x.judge(0), Due.BEYOND);
         x.write(0, 2, 1);

@@ -74,7 +74,8 @@ public final class SilenceTest {
         T.due("odds 100", x.cell(0, 100), Due.BEYOND);
         T.due("odds -1", x.cell(0, -1), Due.BEYOND);
         T.due("first", x.cell(63, 99), 0);
-        T.due("then", x.cell(63, 7), 99);
+        T.due("then", x.cell(63, 0), 99);
+        T.due("of no odds", x.cell(63, 7), 0);
         T.due("one is left", x.count(12), 1);
         T.due("look", x.seek(), 63);
         T.due("none is left", x.count(12), 0);
@@ -95,6 +96,9 @@ public final class SilenceTest {
         T.due("least of like ones", x.seek(), 3);
         T.due("the other", x.seek(), 9);
         T.due("last", x.seek(), 63);
+        x.cell(0, 4);
+        T.due("one counts again", x.count(12), 1);
+        T.due("cell 0", x.seek(), 0);
         T.due("none with odds above 0", x.seek(), Due.NONE);
     }
 
