@@ -107,6 +107,8 @@ final class PlansEdges {
             three(t).go("dish(0, 1, 0)").due("bars(0, 1)", 0);
             Run x = Made.plans(t, 0).asks("track c0n1from5to6;track c0n1from0to5").due("bars(0, 1)", 1);
             x.asks("track c0n1from6to7").due("bars(0, 2)", 0).due("bars(1, 2)", 0);
+            Run heavy = three(t).go("worth(0, 999)").asks("track c0n4from0to5").due("bars(1, 3)", 1).due("bars(3, 1)", 1);
+            heavy.due("bars(2, 3)", 1).due("bars(1, 2)", 0).due("bars(3, 0)", 1);
             six(t).asks("track c0n9from0to9").asks("track c0n9from0to9").due("bars(6, 7)", 1).due("bars(0, 7)", 1).due("bars(0, 5)", 0);
             t.unchanged(() -> Made.busy(t), "bars(5, 6)", 0);
             t.unchanged(() -> three(t), "bars(0, 1)", 1);
