@@ -25,6 +25,8 @@ public final class EdgesTest {
         SilenceEdges.all(t);
         SheetsEdges.all(t);
         ImagesEdges.all(t);
+        TwinsEdges.all(t);
+        RangesEdges.all(t);
         t.end();
     }
 

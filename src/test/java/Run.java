@@ -22,7 +22,7 @@ final class Run {
             args = new Object[parts.length];
             for (int i = 0; i < parts.length; i++) {
                 String p = parts[i].trim();
-                args[i] = p.equals("true") || p.equals("false") ? (Object) Boolean.valueOf(p) : Integer.valueOf(p);
+                args[i] = p.equals("true") || p.equals("false") ? (Object) Boolean.valueOf(p) : Integer.decode(p);
             }
         }
     }
